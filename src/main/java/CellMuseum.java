@@ -710,11 +710,6 @@ public final class CellMuseum {
             int i = k * states + v;
             return i < basis.length ? basis[i] : 0;
         }
-
-        /** The state that a cell has after a step. */
-        int nextOf(int state, int aliveNear) {
-            return (state == 1 ? stays : born) >> aliveNear & 1;
-        }
     }
 
     /** Solves for the conserved weights of a block rule, in whole numbers. */
@@ -1000,7 +995,7 @@ public final class CellMuseum {
             return true;
         }
 
-        /** Whether the other one, of as many alive cells, is this one turned; bits of turn: mirror x, mirror y, swap. */
+        /** Whether the other, of as many alive cells, is this one turned; bits of turn: mirror x, mirror y, swap. */
         boolean isTurned(Field other, int turn) {
             int width = other.right - other.left;
             int height = other.bottom - other.top;
@@ -1454,21 +1449,22 @@ public final class CellMuseum {
         private final int[] order = new int[MOST_CELLS];
         private final int[] starts = new int[MOST_BITS + 1];
         private int bits;
-        private Rule rule;
+        private int born;
+        private int stays;
         private final int[] nexts = new int[1 << 12];
         // A bit for each pattern.
         private final long[] hitBits = new long[MOST_PATTERNS / 64];
         private int hits;
 
-        int findStill(Rule itsRule, int rows, int columns) {
-            layOut(itsRule, rows, columns, AS_BEFORE);
+        int findStill(Rule rule, int rows, int columns) {
+            layOut(rule, rows, columns, AS_BEFORE);
             sortCells();
             explore(MOST_PATTERNS);
             return hits;
         }
 
-        int findAncestors(Rule itsRule, int rows, int columns, int pattern, int most) {
-            layOut(itsRule, rows + 2, columns + 2, 0);
+        int findAncestors(Rule rule, int rows, int columns, int pattern, int most) {
+            layOut(rule, rows + 2, columns + 2, 0);
             int rest = pattern;
             for (int i = 0; i < rows; i++) {
                 for (int j = 0; j < columns; j++) {
@@ -1485,11 +1481,11 @@ public final class CellMuseum {
             return hits;
         }
 
-        int findGarden(Rule itsRule, int rows, int columns) {
+        int findGarden(Rule rule, int rows, int columns) {
             int size = rows * columns;
             for (int n = 0; n <= size; n++) {
                 for (int pattern = 0; pattern < 1 << size; pattern++) {
-                    if (Integer.bitCount(pattern) == n && findAncestors(itsRule, rows, columns, pattern, 1) == 0) {
+                    if (Integer.bitCount(pattern) == n && findAncestors(rule, rows, columns, pattern, 1) == 0) {
                         hit(pattern);
                         return 1;
                     }
@@ -1499,8 +1495,8 @@ public final class CellMuseum {
             return 0;
         }
 
-        int findOscillators(Rule itsRule, int rows, int columns, int p) {
-            layOut(itsRule, rows, columns, ANY);
+        int findOscillators(Rule rule, int rows, int columns, int p) {
+            layOut(rule, rows, columns, ANY);
             sortCells();
             explore(MOST_PATTERNS);
             int size = Math.min(1 << bits, nexts.length);
@@ -1531,8 +1527,9 @@ public final class CellMuseum {
         }
 
         /** Lists the cells of the box, which have to become as dueWithin says, and those round it, dead ones. */
-        private void layOut(Rule itsRule, int rows, int columns, int dueWithin) {
-            rule = itsRule;
+        private void layOut(Rule rule, int rows, int columns, int dueWithin) {
+            born = rule.born;
+            stays = rule.stays;
             bits = Math.min(rows * columns, MOST_BITS);
             cells = 0;
             for (int i = -1; i <= rows; i++) {
@@ -1600,22 +1597,27 @@ public final class CellMuseum {
             }
             for (int s = starts[b]; s < starts[b + 1] && s < MOST_CELLS; s++) {
                 int k = order[s];
-                int state = (pattern & own[k]) != 0 ? 1 : 0;
-                int wanted = due[k] == AS_BEFORE ? state : due[k];
-                if (rule.nextOf(state, Integer.bitCount(pattern & near[k])) != wanted) {
+                int before = (pattern & own[k]) != 0 ? 1 : 0;
+                if (nextOf(k, pattern) != (due[k] == AS_BEFORE ? before : due[k])) {
                     return false;
                 }
             }
             return true;
         }
 
+        /** The state of cell k one step after a pattern. */
+        private int nextOf(int k, int pattern) {
+            if (k < 0 || k >= MOST_CELLS) {
+                return 0;
+            }
+            int numbers = (pattern & own[k]) != 0 ? stays : born;
+            return numbers >> Integer.bitCount(pattern & near[k]) & 1;
+        }
+
         private int nextWithin(int pattern) {
             int next = 0;
             for (int k = 0; k < cells; k++) {
-                if (own[k] != 0) {
-                    int state = (pattern & own[k]) != 0 ? 1 : 0;
-                    next |= rule.nextOf(state, Integer.bitCount(pattern & near[k])) * own[k];
-                }
+                next |= nextOf(k, pattern) * own[k];
             }
             return next;
         }
