@@ -16,6 +16,7 @@ public final class FieldTest {
         about();
         differentBlocks();
         periods();
+        periodAcrossWords();
         congruence();
         emptying();
         Check.end("FieldTest");
@@ -351,6 +352,17 @@ public final class FieldTest {
         Check.due("shift(2)", m.shift(2), CellMuseum.BAD);
         Check.due("shift(-1)", m.shift(-1), CellMuseum.BAD);
         Check.due("the shift after BAD", m.shift(1), -1);
+    }
+
+    /** Wherever the blinker stands in a wide box, it is seen that the next step is not the same pattern. */
+    private static void periodAcrossWords() {
+        CellMuseum m = life();
+        for (int x = -100; x <= 90; x += 10) {
+            m.empty(0);
+            Check.read(m, 0, -110, -2, "2o216b2o$2o216b2o4$2o216b2o$2o216b2o!");
+            Check.read(m, 0, x, 1, "3o!");
+            Check.due("a blinker at " + x, m.period(0, 9), 2);
+        }
     }
 
     private static void congruence() {

@@ -29,6 +29,9 @@ public final class ModelTest {
         for (int seed = 0; seed < 40 * times; seed++) {
             new ModelTest("text", seed).textRun();
         }
+        for (int seed = 0; seed < 8 * times; seed++) {
+            new ModelTest("dense", seed).denseRun();
+        }
         Check.end("ModelTest");
     }
 
@@ -171,6 +174,30 @@ public final class ModelTest {
             due = plain.textByte(f, i);
             due("textByte(" + f + ", " + i + ")", museum.textByte(f, i), due);
         }
+    }
+
+    /** From some cells in the middle a pattern grows over nearly all places. */
+    private void denseRun() {
+        String[] growing = {"B2/S/M", "B1357/S02468/M", "B2/S1/X", "B1/S/V", "B13/S012/M", "B36/S125/M"};
+        newRule(growing[below(growing.length)]);
+        due("field(0)", museum.field(0), plain.field(0));
+        for (int y = -3; y <= 3; y++) {
+            for (int x = -3; x <= 3; x++) {
+                int v = below(2);
+                due("put", museum.put(0, x, y, v), plain.put(0, x, y, v));
+            }
+        }
+        for (int n = 64; n > 0 && calls < CALLS; n = n == 1 ? 0 : n - 1 - below(20) * n / 64) {
+            int generation = plain.steps(0, n);
+            due("steps(0, " + n + ")", museum.steps(0, n), generation);
+            if (generation >= 0) {
+                aboutAll(0);
+            }
+        }
+        for (int i = 0; i < 60000; i += 1 + i / 2) {
+            due("textByte(0, " + i + ")", museum.textByte(0, i), plain.textByte(0, i));
+        }
+        due("congruent(0, 0)", museum.congruent(0, 0), plain.congruent(0, 0));
     }
 
     private int coordinate() {
