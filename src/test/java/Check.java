@@ -5,17 +5,28 @@ final class Check {
 
     private static int wrong = 0;
     private static int asked = 0;
+    private static String words = "";
 
     private Check() {
     }
 
+    /** The words of the document that the answers from here on are about: a wrong answer is told with them. */
+    static void sentence(String ofDocument) {
+        words = "\"" + ofDocument + "\" ";
+    }
+
     static void due(String call, int got, int want) {
+        same(call, "" + got, "" + want);
+    }
+
+    static void same(String call, String got, String want) {
         asked++;
-        if (got != want) {
-            wrong++;
+        if (got.equals(want)) {
+            return;
         }
-        if (got != want && wrong <= MOST_TOLD) {
-            System.out.println(call + " answered " + got + ", due is " + want);
+        wrong++;
+        if (wrong <= MOST_TOLD) {
+            System.out.println(words + call + " answered " + got + ", due is " + want);
         }
     }
 
