@@ -28,11 +28,15 @@ public final class FieldEdgesTest {
         jumps();
         aboutWhat();
         differentBlocks();
+        emptyBlocks();
+        blocksAskedBefore();
         periodsUpToMost();
         periodsOfNothing();
+        periodsAcrossThePlaces();
         periodsNearTheRim();
         shifts();
         congruence();
+        congruenceAtTheRims();
         congruenceOfNothing();
         emptying();
         Check.end("FieldEdgesTest");
@@ -237,6 +241,9 @@ public final class FieldEdgesTest {
         textIs("99o!", 0, 0, "99o!");
         textIs("100o!", 0, 0, "100o!");
         textIs("101o!", 20, 0, "101o!");
+        textIs("198o!", -100, 0, "198o!");
+        textIs("199o!", -100, 0, "199o!");
+        textIs("200o!", -100, 0, "200o!");
         textIs("3b2o3b!", 0, 0, "2o!");
         textIs("2bo3b$o4b$bo!", 0, 0, "2bo$o$bo!");
         textIs("b4o$4o!", 0, 0, "b4o$4o!");
@@ -557,6 +564,47 @@ public final class FieldEdgesTest {
         Check.due("full squares of sides 2 and 4", blocks("4o$4o$4o$4o!"), 15);
     }
 
+    private static String[] rows(String row, int many) {
+        String[] runs = new String[many / 2];
+        for (int k = 0; k < runs.length; k++) {
+            runs[k] = (k == 0 ? "" : 2 * k + "$") + row + "$" + row + "!";
+        }
+        return runs;
+    }
+
+    private static void emptyBlocks() {
+        Check.sentence("how many there are of these squares of all sides");
+        Check.due("the lower half", blocks("128$" + "256o$".repeat(64) + "!", "192$" + "256o$".repeat(64) + "!"),
+                1 + 2 * 7);
+        Check.due("the right half", blocks(rows("128b128o", 256)), 1 + 2 * 7);
+        // Of side 2 there is an empty square; of all others those at the rim have dead cells and alive ones.
+        Check.due("all but the last two columns", blocks(rows("254o", 256)), 2 + 2 * 6 + 1);
+        Check.due("all but the first two columns", blocks(rows("2b254o", 256)), 2 + 2 * 6 + 1);
+        Check.due("all but the last two rows", blocks(rows("256o", 254)), 2 + 2 * 6 + 1);
+        Check.due("all but the last column", blocks(rows("255o", 256)), 2 * 7 + 1);
+        Check.due("all but the last 128 columns and rows", blocks(rows("128o", 128)), 1 + 2 * 7);
+        // Side 8: one with three empty squares of side 4, one with none; 16, 32 .. 128: two; 256: one.
+        Check.due("an empty square is not the first that is found", blocks("o7bo3bo4$8bo3bo!"), 2 + 2 + 3 + 4 * 2 + 1);
+        Check.due("an empty square behind others", blocks("o11b3o$12bo!"), 3 + 3 + 3 + 4 * 2 + 1);
+    }
+
+    private static void blocksAskedBefore() {
+        Check.sentence("7 how many DIFFERENT BLOCKS");
+        String[] texts = {"o!", "255$255bo!", "127$127b2o$127b2o!", "3o$o$bo!", "100$77b3o2bo$80b5o!", "o254bo!",
+            "2o$2o!"};
+        CellMuseum m = fields("B1357/S1357/M", 2);
+        Check.read(m, 0, -2, -2, "ob3o$2ob2o$o3bo!");
+        for (int k = 0; k < texts.length; k++) {
+            m.empty(1);
+            Check.read(m, 1, -128, -128, texts[k]);
+            int alone = blocks(texts[k]);
+            // A field that is full of others is asked in between, and what was seen of it does not stay.
+            Check.due("the blocks of the other field", m.about(0, 7) > 8);
+            Check.due("the blocks of " + texts[k], m.about(1, 7), alone);
+            m.steps(0, 1 + 4 * k);
+        }
+    }
+
     // ---- period and shift
 
     private static void periodsUpToMost() {
@@ -619,6 +667,54 @@ public final class FieldEdgesTest {
         Check.due("the field stays", m.at(1, 50, 50), 1);
         m.steps(1, 1);
         Check.due("what has died", m.period(1, 60), 1);
+    }
+
+    private static void periodsAcrossThePlaces() {
+        Check.sentence("such that after p STEPS the alive cells of a FIELD are as now, all moved by the same (x, y)");
+        // Blocks in the corners hold the box, and a blinker between them stands at each place of a word.
+        for (int x = -68; x <= 68; x++) {
+            CellMuseum m = field(LIFE);
+            Check.read(m, 0, -118, -118, "2o232b2o$2o232b2o!");
+            Check.read(m, 0, -118, 116, "2o232b2o$2o232b2o!");
+            Check.read(m, 0, x, x, "3o!");
+            Check.due("a blinker at " + x, m.period(0, 9), 2);
+            Check.due("shift(0)", m.shift(0), 0);
+        }
+        for (int x = -67; x <= 66; x++) {
+            CellMuseum m = field(LIFE);
+            Check.read(m, 0, x, -x, "bo$2bo$3o!");
+            Check.due("a glider at " + x, m.period(0, 5), 4);
+            Check.due("shift(0)", m.shift(0), 1);
+            Check.due("shift(1)", m.shift(1), 1);
+        }
+        notYet("B2/S12/V", "ob$bo$oo!", "the first row");
+        notYet("B2/S123/V", "boo$obo!", "the first column");
+        notYet("B2/S013/V", "ob$bo$oo!", "the last column");
+        notYet("B2/S013/V", "o62bo$64bo$63b2o!", "the last column of 65");
+        // Two that are not moved by the same.
+        CellMuseum m = field(LIFE);
+        Check.read(m, 0, -20, 0, "bo$2bo$3o!");
+        Check.read(m, 0, 20, 0, "3o$o$bo!");
+        Check.due("two gliders that part", m.period(0, 20), 0);
+        m.empty(0);
+        Check.read(m, 0, -20, 0, "bo$2bo$3o!");
+        Check.read(m, 0, 20, 0, "bo$2bo$3o!");
+        Check.due("two gliders one way", m.period(0, 20), 4);
+        m.steps(0, 1);
+        Check.read(m, 0, -60, 0, "bo$2bo$3o!");
+        Check.due("three gliders one way", m.period(0, 20), 4);
+    }
+
+    /** A step leaves as many cells alive, in the same box, and all as they were but for some at a rim. */
+    private static void notYet(String rule, String cells, String rim) {
+        CellMuseum m = field(rule);
+        Check.read(m, 0, -30, -30, cells);
+        int alive = m.about(0, 0);
+        Check.due("as before but for " + rim, m.period(0, 1), 0);
+        m.steps(0, 1);
+        Check.due("about(0, 0)", m.about(0, 0), alive);
+        Check.due("about(0, 1)", m.about(0, 1), -30);
+        Check.due("about(0, 2)", m.about(0, 2), -30);
     }
 
     private static void periodsNearTheRim() {
@@ -717,6 +813,21 @@ public final class FieldEdgesTest {
         for (int far : FAR) {
             Check.due("congruent(0, " + far + ")", m.congruent(0, far), BAD);
             Check.due("congruent(" + far + ", 0)", m.congruent(far, 0), BAD);
+        }
+    }
+
+    private static void congruenceAtTheRims() {
+        Check.sentence("1 if the alive cells of two FIELDS are the same but for a move and one of the eight turns of a"
+                + " square (mirrored ones, too), else 0.");
+        // As many cells and as great a box, but for one cell that stands elsewhere in a column or row at the rim.
+        String[][] pairs = {{"o2bo$o$2bo$2bo!", "o2bo$o$2bo$o!"}, {"2obo$4bo$2bo$o!", "2obo2$2bobo$o!"},
+            {"3o$o$bo$4bo!", "3o$o$bo2bo2$!"}, {"5o$o$o2$2bo!", "5o$o$o2$3bo!"}, {"4o$4bo$4bo!", "4o2$4bo$4bo!"}};
+        for (String[] pair : pairs) {
+            CellMuseum m = fields(LIFE, 2);
+            Check.read(m, 0, -128, 100, pair[0]);
+            Check.read(m, 1, 100, -128, pair[1]);
+            Check.due(pair[0] + " and " + pair[1], m.congruent(0, 1), 0);
+            Check.due(pair[1] + " and " + pair[0], m.congruent(1, 0), 0);
         }
     }
 

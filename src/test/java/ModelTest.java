@@ -1,3 +1,8 @@
+import java.lang.reflect.InvocationTargetException;
+import java.lang.reflect.Method;
+import java.lang.reflect.Modifier;
+import java.util.Arrays;
+import java.util.Comparator;
 import java.util.Random;
 
 /** Runs of calls, told by fixed seeds, of which each answer is compared with that of PlainMuseum. */
@@ -15,7 +20,7 @@ public final class ModelTest {
         name = kind + " run " + seed + ": ";
     }
 
-    public static void main(String[] args) {
+    public static void main(String[] args) throws ReflectiveOperationException {
         int times = args.length > 0 ? Integer.parseInt(args[0]) : 1;
         for (int seed = 0; seed < 60 * times; seed++) {
             new ModelTest("field", seed).fieldRun();
@@ -31,6 +36,9 @@ public final class ModelTest {
         }
         for (int seed = 0; seed < 8 * times; seed++) {
             new ModelTest("dense", seed).denseRun();
+        }
+        for (int seed = 0; seed < 20 * times; seed++) {
+            new ModelTest("mixed", seed).mixedRun();
         }
         Check.end("ModelTest");
     }
@@ -48,6 +56,43 @@ public final class ModelTest {
     private int near(int n) {
         int[] odd = {-1, -2, n + 1, n + 2, Integer.MAX_VALUE, Integer.MIN_VALUE};
         return below(25) == 0 ? odd[below(odd.length)] : below(n + 1);
+    }
+
+    // ---- all calls
+
+    /** Any call with any numbers, most of them at the edges of what some call takes. */
+    private void mixedRun() throws ReflectiveOperationException {
+        int[] edges = {Integer.MIN_VALUE, Integer.MIN_VALUE + 1, -1001, -1000, -129, -128, -2, -1, 0, 0, 0, 0, 1, 1, 1, 1,
+            2, 2, 2, 3, 3, 4, 5, 6, 7, 8, 15, 16, 17, 60, 64, 65, 100, 127, 128, 1000, 1001, 65535, 65536,
+            Integer.MAX_VALUE - 1, Integer.MAX_VALUE};
+        Method[] methods = CellMuseum.class.getDeclaredMethods();
+        methods = Arrays.stream(methods).filter(m -> Modifier.isPublic(m.getModifiers()))
+                .sorted(Comparator.comparing(Method::getName)).toArray(Method[]::new);
+        for (int k = 0; k < 3; k++) {
+            newRule(k == 1 ? blockText() : countText());
+        }
+        while (calls < CALLS) {
+            if (below(12) == 0) {
+                tape(below(2) == 0 ? runText() : countText());
+            }
+            Method method = methods[below(methods.length)];
+            Integer[] numbers = new Integer[method.getParameterCount()];
+            for (int k = 0; k < numbers.length; k++) {
+                numbers[k] = below(3) == 0 ? edges[below(edges.length)] : below(4);
+            }
+            Method same = PlainMuseum.class.getDeclaredMethod(method.getName(), method.getParameterTypes());
+            due(method.getName() + Arrays.toString(numbers), answer(method, museum, numbers),
+                    answer(same, plain, numbers));
+        }
+    }
+
+    private static int answer(Method method, Object object, Integer[] numbers) throws IllegalAccessException {
+        try {
+            return (Integer) method.invoke(object, (Object[]) numbers);
+        } catch (InvocationTargetException thrown) {
+            System.out.println(method.getName() + Arrays.toString(numbers) + " threw " + thrown.getCause());
+            return -999;
+        }
     }
 
     // ---- texts

@@ -193,6 +193,9 @@ public final class SearchEdgesTest {
         // One cell becomes the four round it, and they the one, of which others are born, too.
         oscillate("B14/S/V", 1, 1, 2);
         oscillate("B14/S/V", 3, 3, 2);
+        // 7 and 21 would change places, were it not for the cell that is born above 7.
+        oscillate("B35/S17/M", 2, 3, 2, 14, 28, 35, 49);
+        oscillate("B35/S17/M", 3, 2, 2, 22, 26, 37, 41);
     }
 
     // ---- ancestors and gardens
