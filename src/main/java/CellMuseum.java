@@ -86,7 +86,9 @@ public final class CellMuseum {
         if (fault >= 0) {
             return FAULTS_FROM - fault;
         }
-        rules[ruleCount] = new Rule(tape, ruleReader, balance);
+        Rule rule = new Rule(tape, ruleReader);
+        rule.weigh(balance);
+        rules[ruleCount] = rule;
         ruleCount++;
         return ruleCount - 1;
     }
@@ -641,10 +643,10 @@ public final class CellMuseum {
         private final int clashLow;
         private final int clashHigh;
         private final int[] basis;
-        private final int basisSize;
+        private int basisSize;
 
         /** The tape is one in which the reader has found no fault. */
-        Rule(Tape tape, RuleReader reader, Balance balance) {
+        Rule(Tape tape, RuleReader reader) {
             text = tape.copy();
             neighbours = reader.neighbours;
             born = reader.born;
@@ -674,6 +676,10 @@ public final class CellMuseum {
             clashLow = low;
             clashHigh = high;
             basis = new int[states * states];
+        }
+
+        /** Not done by the constructor, which hands out nothing of a rule that is not yet made. */
+        void weigh(Balance balance) {
             basisSize = balance.solve(becomes, states, basis);
         }
 

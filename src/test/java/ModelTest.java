@@ -62,8 +62,8 @@ public final class ModelTest {
 
     /** Any call with any numbers, most of them at the edges of what some call takes. */
     private void mixedRun() throws ReflectiveOperationException {
-        int[] edges = {Integer.MIN_VALUE, Integer.MIN_VALUE + 1, -1001, -1000, -129, -128, -2, -1, 0, 0, 0, 0, 1, 1, 1, 1,
-            2, 2, 2, 3, 3, 4, 5, 6, 7, 8, 15, 16, 17, 60, 64, 65, 100, 127, 128, 1000, 1001, 65535, 65536,
+        int[] edges = {Integer.MIN_VALUE, Integer.MIN_VALUE + 1, -1001, -1000, -129, -128, -2, -1, 0, 0, 0, 0, 1, 1, 1,
+            1, 2, 2, 2, 3, 3, 4, 5, 6, 7, 8, 15, 16, 17, 60, 64, 65, 100, 127, 128, 1000, 1001, 65535, 65536,
             Integer.MAX_VALUE - 1, Integer.MAX_VALUE};
         Method[] methods = CellMuseum.class.getDeclaredMethods();
         methods = Arrays.stream(methods).filter(m -> Modifier.isPublic(m.getModifiers()))
