@@ -278,14 +278,14 @@ public final class FieldEdgesTest {
         Check.due("textByte(-1, 0)", m.textByte(-1, 0), BAD);
         Check.due("BAD comes before 0", m.textByte(1, -1), BAD);
 
-        // The longest texts: every second cell alive, in all rows.
+        // As long a text as the calls of one object can make: every second cell alive, in 32 rows.
         CellMuseum longest = field(LIFE);
-        for (int y = -128; y < 128; y += 4) {
+        for (int y = 96; y < 128; y += 4) {
             Check.read(longest, 0, -128, y, ("bo".repeat(128) + "$").repeat(4) + "!");
         }
-        Check.due("about(0, 0)", longest.about(0, 0), 128 * 256);
+        Check.due("about(0, 0)", longest.about(0, 0), 128 * 32);
         // The first column is dead, so each row has an o and 127 times bo, and a $ or the ! behind it.
-        int length = 256 * 256;
+        int length = 256 * 32;
         Check.due("the first byte", longest.textByte(0, 0), 'o');
         Check.due("the last byte of the first row", longest.textByte(0, 254), 'o');
         Check.due("the first $", longest.textByte(0, 255), '$');
@@ -565,9 +565,9 @@ public final class FieldEdgesTest {
     }
 
     private static String[] rows(String row, int many) {
-        String[] runs = new String[many / 2];
+        String[] runs = new String[(many + 7) / 8];
         for (int k = 0; k < runs.length; k++) {
-            runs[k] = (k == 0 ? "" : 2 * k + "$") + row + "$" + row + "!";
+            runs[k] = (k == 0 ? "" : 8 * k + "$") + (row + "$").repeat(Math.min(8, many - 8 * k)) + "!";
         }
         return runs;
     }

@@ -217,7 +217,7 @@ public final class FieldTest {
         Check.due("steps(0, 4)", m.steps(0, 4), 132);
         Check.due("least x", m.about(0, 1), -49);
         for (int k = 0; k <= 6; k++) {
-            m.empty(0);
+            m = life();
             Check.read(m, 0, -40, -40, "2o$2o4$b2o$2o$bo!");
             m.field(0);
             Check.read(m, 1, -40, -40, "2o$2o4$b2o$2o$bo!");

@@ -279,7 +279,7 @@ public final class RuleEdgesTest {
             for (int i = 0; i <= text.length(); i += i > 20 ? 15 : 1) {
                 String before = text.substring(0, i);
                 for (char next = 0; next < 256; next++) {
-                    m = next % 100 == 0 ? new CellMuseum() : m;
+                    m = next % 50 == 0 ? new CellMuseum() : m;
                     // No text goes on with a blank, so that the place behind a good byte is the fault.
                     int place = goesOn(before, next) ? i + 1 : i;
                     Check.due("rule() of " + before + " and byte " + (int) next, Check.rule(m, before + next + " "),

@@ -3,8 +3,8 @@ public final class RunTextEdgesTest {
     private static final int BAD = CellMuseum.BAD;
     private static final int NOT = CellMuseum.NOT;
     private static final int[] FAR = {Integer.MIN_VALUE, Integer.MIN_VALUE + 1, -1000, 1000, Integer.MAX_VALUE};
-    // An object is used for at most 512 calls, and a short text takes three of them.
-    private static final int TEXTS_OF_ONE = 150;
+    // An object is used for at most 512 calls, and a short text takes four of them.
+    private static final int TEXTS_OF_ONE = 100;
 
     private CellMuseum museum = null;
     private int texts = 0;
