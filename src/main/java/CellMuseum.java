@@ -756,7 +756,7 @@ public final class CellMuseum {
         }
 
         private void tallyStates(int block, int states, int by) {
-            if (states < 2 || block < 0) {
+            if (states < 2 || states > MOST_STATES || block < 0) {
                 return;
             }
             int rest = block;
@@ -777,6 +777,7 @@ public final class CellMuseum {
                     return;
                 }
                 cancel(change, equations[p], p);
+                shorten(change);
             }
         }
 
@@ -785,6 +786,7 @@ public final class CellMuseum {
                 for (int q = p - 1; q >= 0; q--) {
                     if (isHeld(q) && equations[p][q] != 0) {
                         cancel(equations[p], equations[q], q);
+                        shorten(equations[p]);
                     }
                 }
             }
@@ -796,7 +798,6 @@ public final class CellMuseum {
             for (int c = 0; c < MOST_STATES; c++) {
                 row[c] = row[c] * its - by[c] * mine;
             }
-            shorten(row);
         }
 
         private void writeRow(int leading, int states, int[] basis, int from) {

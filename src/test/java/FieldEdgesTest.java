@@ -33,6 +33,7 @@ public final class FieldEdgesTest {
         periodsUpToMost();
         periodsOfNothing();
         periodsAcrossThePlaces();
+        periodsOfWhatIsLeft();
         periodsNearTheRim();
         shifts();
         congruence();
@@ -717,6 +718,26 @@ public final class FieldEdgesTest {
         Check.due("about(0, 2)", m.about(0, 2), -30);
     }
 
+    private static void periodsOfWhatIsLeft() {
+        Check.sentence("such that after p STEPS the alive cells of a FIELD are as now, all moved by the same (x, y)");
+        // A block stays and a cell by itself dies: all that is left is as now, but it is not all that is now.
+        int[][] places = {{0, 20}, {0, -20}, {20, 0}, {-20, 0}, {20, 20}, {-20, -20}, {0, 66}, {66, 0}, {-66, -66}};
+        for (int[] place : places) {
+            CellMuseum m = field(LIFE);
+            Check.read(m, 0, 0, 0, "2o$2o!");
+            m.put(0, place[0], place[1], 1);
+            Check.due("a block and a cell at " + place[0] + ", " + place[1], m.period(0, 50), 0);
+            m.steps(0, 1);
+            Check.due("the block alone", m.period(0, 50), 1);
+            Check.due("shift(0)", m.shift(0), 0);
+            Check.due("shift(1)", m.shift(1), 0);
+        }
+        // What has grown has a part that is as now, too.
+        CellMuseum more = field("B1/S0/V");
+        more.put(0, 5, 5, 1);
+        Check.due("a cell that becomes five", more.period(0, 1), 0);
+    }
+
     private static void periodsNearTheRim() {
         Check.sentence("NOT: most STEPS are not DONE.");
         int[] many = {1, 2, 59, 60};
@@ -845,6 +866,34 @@ public final class FieldEdgesTest {
         Check.due("none and one cell", m.congruent(1, 0), 0);
         m.put(2, 127, 127, 1);
         Check.due("one cell each, of two rules", m.congruent(0, 2), 1);
+        // However a field came to be empty.
+        int[][] shapes = {{0, 0}, {50, 0}, {0, 50}, {-60, -60}, {0, 0, 50, 0}, {0, 0, 0, 50}, {60, -60, -60, 60}};
+        for (int[] cells : shapes) {
+            CellMuseum emptied = fields(LIFE, 5);
+            for (int k = 0; k < cells.length; k += 2) {
+                for (int f = 0; f < 4; f++) {
+                    emptied.put(f, cells[k], cells[k + 1], 1);
+                }
+            }
+            emptied.empty(0);
+            emptied.steps(1, 1);
+            for (int k = 0; k < cells.length; k += 2) {
+                Check.read(emptied, 2, cells[k], cells[k + 1], "b!");
+                emptied.put(3, cells[k], cells[k + 1], 0);
+            }
+            allEmpty(emptied, 5);
+        }
+    }
+
+    private static void allEmpty(CellMuseum m, int many) {
+        for (int f = 0; f < many; f++) {
+            Check.due("about(" + f + ", 0)", m.about(f, 0), 0);
+            box(m, f, 0, 0, 0, 0);
+            for (int g = 0; g < many; g++) {
+                Check.due("two empty fields, " + f + " and " + g, m.congruent(f, g), 1);
+            }
+            Check.due("the period of field " + f, m.period(f, 60), 1);
+        }
     }
 
     private static void emptying() {

@@ -34,6 +34,7 @@ public final class GridEdgesTest {
         basisOfAll();
         basisOfOne();
         basisInWholeNumbers();
+        basisOfEachRule();
         noWeights();
         noSuchWeight();
         counts();
@@ -624,6 +625,33 @@ public final class GridEdgesTest {
         image[block(4, 1, 1, 1, 1)] = block(4, 2, 2, 2, 2);
         image[block(4, 2, 2, 2, 2)] = block(4, 0, 3, 3, 3);
         basis(Check.blockText(4, image), new int[] {3, 0, 0, -1}, new int[] {0, 3, 3, 4});
+    }
+
+    private static void basisOfEachRule() {
+        Check.sentence("How many weights the BASIS of a BLOCK RULE has.");
+        // Whatever rules were made before, and of how many states.
+        int[] heavy = Check.identity(3);
+        heavy[0] = block(3, 1, 1, 1, 2);
+        int[] alike = Check.identity(4);
+        alike[block(4, 0, 0, 0, 3)] = block(4, 0, 0, 0, 2);
+        String[] rules = {"K4" + "3".repeat(1024), turning(4), Check.blockText(3, heavy), "K2" + "0".repeat(64),
+            Check.blockText(4, alike), turning(2), "K3" + "2".repeat(324), turning(3)};
+        int[][] due = {{1, 1, 1, 1}, {1, 0, 0, 0}, {1, 0, 4, 0}, {1, 1, 0, 0}, {1, 0, 0, 0}, {1, 0, 0, 0}, {1, 1, 1, 0},
+            {1, 0, 0, 0}};
+        int[] sizes = {1, 4, 2, 1, 3, 2, 1, 3};
+        for (int first = 0; first < rules.length; first++) {
+            CellMuseum m = new CellMuseum();
+            for (int r = 0; r < rules.length; r++) {
+                Check.due("rule()", Check.rule(m, rules[(first + r) % rules.length]), r);
+            }
+            for (int r = 0; r < rules.length; r++) {
+                int k = (first + r) % rules.length;
+                Check.due("weights(" + r + ")", m.weights(r), sizes[k]);
+                for (int v = 0; v < 4; v++) {
+                    Check.due("weight(" + r + ", 0, " + v + ")", m.weight(r, 0, v), due[k][v]);
+                }
+            }
+        }
     }
 
     private static void noWeights() {
